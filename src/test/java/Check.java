@@ -25,4 +25,31 @@ final class Check {
             System.exit(1);
         }
     }
+
+    /** A new object with a TEST as TEXT 0. */
+    static GrownAsks with(String test) {
+        GrownAsks x = new GrownAsks();
+        type(x, 0, test);
+        return x;
+    }
+
+    static void type(GrownAsks x, int text, String test) {
+        x.wipe(text);
+        for (int i = 0; i < test.length(); i++) {
+            x.type(text, test.charAt(i));
+        }
+    }
+
+    static String textOf(GrownAsks x, int text) {
+        StringBuilder all = new StringBuilder();
+        for (int i = 0; x.byteOf(text, i) != GrownAsks.NONE; i++) {
+            all.append((char) x.byteOf(text, i));
+        }
+        return all.toString();
+    }
+
+    /** That a refused call left all as it was, the latest FINDING aside. */
+    void same(String call, long before, GrownAsks x) {
+        due(call + " changes nothing", x.digest(), before);
+    }
 }
