@@ -255,6 +255,8 @@ public final class EngineTest {
         check.due("tell NOT", x.tell(1, 0, 0), -1001);
         Check.type(x, 1, "|>a0<a1");
         check.due("kinds", x.tell(1, 2, 1), 3);
+        x.put(0, 2, -9);
+        check.due("NOTHING and -9 are unlike", x.tell(1, 2, 2), 4);
         check.due("total", x.tell(1, 1, 0), 16);
     }
 

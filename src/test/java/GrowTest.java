@@ -16,6 +16,7 @@ public final class GrowTest {
         learn();
         learnRefuses();
         next();
+        nextAtItsEnds();
         nextRefuses();
         check.end();
     }
@@ -143,6 +144,34 @@ public final class GrowTest {
         }
         x.set(0, 1);
         check.due("one rule alone is no pair", x.next(0, 9), -1);
+    }
+
+    /** Of 30 SEEDS the first is the one itself, and the one that is 30 further is not tried. */
+    private void nextAtItsEnds() {
+        GrownAsks x = new GrownAsks();
+        x.row(3, 3, 3);
+        int gap = 0, found = 0;
+        for (int seed = 0; seed < 100000 && found < 3; seed++) {
+            x.grow(seed, 2);
+            boolean hit = Integer.bitCount(x.fired(1)) > 1;
+            if (hit) check.due("next(" + seed + ", 2)", x.next(seed, 2), 0);
+            if (hit && gap >= 30) {
+                found++;
+                check.due("next 29 ahead of " + seed, x.next(seed - 29, 2), 29);
+                check.due("next 30 ahead of " + seed, x.next(seed - 30, 2), -1);
+            }
+            gap = hit ? 0 : gap + 1;
+            x = fresh(x, seed);
+        }
+        check.isTrue("there are such gaps", found == 3);
+    }
+
+    /** An object is used for at most 512 calls. */
+    private static GrownAsks fresh(GrownAsks x, int seed) {
+        if (seed % 50 != 0) return x;
+        GrownAsks y = new GrownAsks();
+        y.row(3, 3, 3);
+        return y;
     }
 
     /** By grow() and fired() on an object that has LEARNT nothing. */

@@ -12,6 +12,7 @@ public final class LawTest {
 
     private void all() {
         quarrelsOfEachLaw();
+        kindsOfEachColumn();
         quarrelsOfSame();
         lawsThatNoFaultBreaks();
         quarrelsRefuses();
@@ -62,6 +63,21 @@ public final class LawTest {
         Check.type(x, 0, "&=an=an");
         x.set(1, 32);
         check.due("rule 5 is for < = >", quarrels(x), 0);
+    }
+
+    /** A yes ROW, and two of nothing that are unlike in one COLUMN alone. */
+    private void kindsOfEachColumn() {
+        int[][][] rows = {{{5, 1, 0}, {1, N, 0}, {2, N, 0}}, {{1, 5, 0}, {N, 1, 0}, {N, 2, 0}},
+            {{1, 0, 5}, {N, 0, 1}, {N, 0, 2}}};
+        String[] tests = {"=b1", "=a1", "=a1"};
+        for (int column = 0; column < 3; column++) {
+            GrownAsks x = Check.with(tests[column]);
+            for (int[] r : rows[column]) x.row(r[0], r[1], r[2]);
+            x.set(1, 4);
+            check.due("kinds of column " + column, quarrels(x), 64);
+            x.put(2, column, 1);
+            check.due("no more kinds of column " + column, quarrels(x), 0);
+        }
     }
 
     private void quarrelsOfSame() {

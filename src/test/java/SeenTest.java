@@ -43,6 +43,9 @@ public final class SeenTest {
         seenBy("=b0", 1 | 32 | 128, 128, 0, 0, 0, 1 | 32 | 128, 4);
         seenBy("=a2", 1 | 32 | 128, 0, 0, 0, 0, 128, 4);
         seenBy("!=an", 128, 0, 0, 0, 0, 128, 4);
+        // nothing in one kind of ROW, else yes: kinds by p are less only where there is no other ROW
+        check.due("a NOTHING, b NOTHING alone", Check.with("|=a0|=a1=b0").seen(2, 6), 1);
+        check.due("a NOTHING, b 0 alone", Check.with("|=a0|=a1?=b0").seen(2, 6), 1);
     }
 
     private void blindIs(String test, int due) {
@@ -72,6 +75,8 @@ public final class SeenTest {
         blindIs("?|=cn=a1", 8);
         blindIs("&=c0=an", 2 | 4);
         blindIs("=c0", 0);
+        blindIs("&?=b0<0a", 4 | 16 | 32);
+        blindIs("&=b0<0a", 16);
     }
 
     /** Nothing of it hangs on THE TABLE, RULES and FAULTS as they are, or changes them. */
