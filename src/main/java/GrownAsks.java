@@ -494,7 +494,7 @@ public final class GrownAsks {
     }
 
     private static boolean mayStand(long v) {
-        return v == NOTHING || v >= LEAST && v <= MOST;
+        return v == NOTHING || (v >= LEAST && v <= MOST);
     }
 
     private static boolean isLaw(int law) {
@@ -578,7 +578,8 @@ public final class GrownAsks {
     private int straysAt(int act) {
         int had = engine.verdictAt(act);
         int meant = meaning.verdictAt(act);
-        return yesOf(had) ^ yesOf(meant) | nothingOf(had) ^ nothingOf(meant);
+        int unlike = had ^ meant;
+        return yesOf(unlike) | nothingOf(unlike);
     }
 
     /** ROWS in which an ACT is not as meant, while all ACTS in it are. */
@@ -593,7 +594,7 @@ public final class GrownAsks {
 
     /** What a TEST is in all ROWS at once: yes as the lower bits, nothing as the upper ones. */
     private static int verdict(int yes, int nothing) {
-        return yes | nothing << 16;
+        return yes | (nothing << 16);
     }
 
     private static int yesOf(int verdict) {
@@ -691,7 +692,7 @@ public final class GrownAsks {
         /** Those of some ROWS that are the same as an earlier one of them. */
         int repeated(int some) {
             int later = 0;
-            for (int row = 0; row < rows && row < most; row++) {
+            for (int row = 0; row < rows && row < most && some >> row != 0; row++) {
                 if ((some >> row & 1) != 0 && (sameEarlier[row] & some) != 0) {
                     later |= 1 << row;
                 }
@@ -701,7 +702,7 @@ public final class GrownAsks {
 
         int total(int some, int column) {
             int sum = 0;
-            for (int row = 0; row < rows; row++) {
+            for (int row = 0; row < rows && some >> row != 0; row++) {
                 int v = cell(row, column);
                 if ((some >> row & 1) != 0 && isTold(v)) {
                     sum += v;
@@ -712,7 +713,7 @@ public final class GrownAsks {
 
         int kinds(int some, int column) {
             int unlike = 0;
-            for (int row = 0; row < rows; row++) {
+            for (int row = 0; row < rows && some >> row != 0; row++) {
                 if ((some >> row & 1) != 0) {
                     int v = cell(row, column);
                     unlike |= 1 << (v == NOTHING ? 0 : v - LEAST + 1);
@@ -990,14 +991,14 @@ public final class GrownAsks {
         int both(int v, int w) {
             int yes = yesOf(v) & yesOf(w);
             int no = noOf(v) | noOf(w);
-            int odd = fire(2, yesOf(v) & nothingOf(w) | nothingOf(v) & yesOf(w));
+            int odd = fire(2, (yesOf(v) & nothingOf(w)) | (nothingOf(v) & yesOf(w)));
             return verdict(yes | odd, all & ~yes & ~no & ~odd);
         }
 
         int either(int v, int w) {
             int yes = yesOf(v) | yesOf(w);
             int no = noOf(v) & noOf(w);
-            int odd = fire(3, nothingOf(v) & noOf(w) | noOf(v) & nothingOf(w));
+            int odd = fire(3, (nothingOf(v) & noOf(w)) | (noOf(v) & nothingOf(w)));
             return verdict(yes, all & ~yes & ~no & ~odd);
         }
 
@@ -1285,7 +1286,7 @@ public final class GrownAsks {
                 for (int second = NONE; second < KINDS; second++) {
                     boolean isAlone = second == NONE;
                     if ((isAlone || B_OF[first] == B_OF[second]) && next < TABLES) {
-                        tables[next] = 1 << first | (isAlone ? 0 : 1 << KINDS + second);
+                        tables[next] = (1 << first) | (isAlone ? 0 : 1 << (KINDS + second));
                         next++;
                     }
                 }
@@ -1295,9 +1296,13 @@ public final class GrownAsks {
         /** Those of some LAWS with which a TEST QUARRELS on one of the tables, as bits. */
         int quarrelsOf(Text text, int done, int some) {
             engine.work(text, done);
+            return brokenOnes(text, some);
+        }
+
+        private int brokenOnes(Text text, int some) {
             int broken = 0;
             for (int law = 0; law < LAWS; law++) {
-                int bit = some & 1 << law;
+                int bit = some & (1 << law);
                 for (int i = 0; i < TABLES && (bit & ~broken) != 0; i++) {
                     broken |= laws.isBroken(law, text, 0, tables[i]) ? bit : 0;
                 }
@@ -1310,8 +1315,8 @@ public final class GrownAsks {
             int meant = yesOf(engine.verdictAt(0));
             int unseen = 0;
             for (int fault = 0; fault < RULES; fault++) {
-                int seeing = quarrelsOf(text, 1 << fault, holding);
-                if (seeing == 0 && isAstray(meant)) {
+                engine.work(text, 1 << fault);
+                if (isAstray(meant) && brokenOnes(text, holding) == 0) {
                     unseen |= 1 << fault;
                 }
             }

@@ -7,7 +7,7 @@ import java.util.Random;
 
 /** Long runs of calls by lots, held against the document word by word (PlainAsks). */
 public final class AgainstPlainTest {
-    private static final int RUNS = 400, CALLS = 512;
+    private static final int RUNS = 300, FULL_RUNS = 1500, CALLS = 512;
     private static final int[] EDGES = {-2147483648, -101, -100, -99, -10, -9, -1, 0, 1, 2, 3, 4, 5, 6,
         7, 8, 9, 10, 11, 29, 30, 38, 39, 40, 41, 47, 48, 49, 127, 128, 255, 256, 2147483647};
     private static final long[] LONGS = {Long.MIN_VALUE, -4294967296L, -32769, -129, -128, -101, -100,
@@ -37,13 +37,57 @@ public final class AgainstPlainTest {
         }
         check.due("public calls", calls.size(), 36);
         for (run = 0; run < RUNS; run++) {
-            lots = new Random(run);
-            asks = new GrownAsks();
-            plain = new PlainAsks();
-            left = CALLS;
+            begin();
             while (left > 0) step();
         }
+        for (; run < RUNS + FULL_RUNS; run++) {
+            begin();
+            fill();
+            askAll();
+        }
         check.end();
+    }
+
+    private void begin() {
+        lots = new Random(run);
+        asks = new GrownAsks();
+        plain = new PlainAsks();
+        left = CALLS;
+    }
+
+    /** ROWS of few kinds, a TEST and FAULTS, so that RULES fire and LAWS break. */
+    private void fill() throws Exception {
+        int rows = 1 + lots.nextInt(8);
+        int kinds = 1 + lots.nextInt(4);
+        int[] values = {-100, 1, 5, -9};
+        for (int i = 0; i < rows; i++) {
+            call("row", values[lots.nextInt(kinds)], values[lots.nextInt(kinds)], values[lots.nextInt(kinds)]);
+        }
+        typeTest();
+        call("grow", lots.nextInt(), 1 + lots.nextInt(9));
+        call("set", 1, lots.nextInt(4) == 0 ? lots.nextInt(256) : 1 << lots.nextInt(8) | 1 << lots.nextInt(8));
+        if (lots.nextInt(4) == 0) call("set", 0, lots.nextInt(256) | lots.nextInt(256));
+    }
+
+    private void askAll() throws Exception {
+        for (int text = 0; text < 2; text++) {
+            for (String name : new String[] {"fault", "acts", "meant", "which", "fired", "learn"}) call(name, text);
+            for (int what = 0; what < 9; what++) call("tell", text, what / 3, what % 3);
+            for (int what = 0; what < 2; what++) call("wrong", text, what);
+            for (int act = 0; act < 10; act++) {
+                call("means", text, act, lots.nextInt(8));
+                call("has", text, act, lots.nextInt(8));
+            }
+        }
+        for (int law = 0; law < 7; law++) {
+            for (int text = 0; text < 2; text++) call("quarrels", text, law);
+            for (int what = 0; what < 3; what++) call("cut", law, what);
+            for (String name : new String[] {"led", "holds"}) call(name, law);
+            call("seen", lots.nextInt(8), law);
+        }
+        for (int r = 1; r < 10; r++) call("next", lots.nextInt(), r);
+        call("blind");
+        call("digest");
     }
 
     private void step() throws Exception {
