@@ -463,7 +463,20 @@ final class LawEdges {
             check.refuses(State.RICH, "cut(3, " + w + ")", x -> x.cut(3, w), NOT);
             check.refuses(State.FULL, "cut(0, " + w + ")", x -> x.cut(0, w), NOT);
             check.due("THE TABLE empty", made("=an", 255).cut(0, w), NOT);
+            GrownAsks off = State.RICH.make(0);
+            off.set(0, 127);
+            check.due("RULE 7 off, by whose FAULT alone it did", off.cut(1, w), NOT);
         }
+        for (int law = 0; law < 7; law++) {
+            int l = law;
+            check.refuses(State.FULL, "cut(" + l + ", 3): BAD, though it does not QUARREL", x -> x.cut(l, 3), BAD);
+        }
+        GrownAsks x = made("=an", 33, new int[] {1, 1, 1});
+        check.due("both FAULTS together", x.cut(0, 0), NOT);
+        x.set(0, 255 & ~32);
+        cuts(check, "RULE 5 off", x, 0, 1, 1, 0);
+        x.set(0, 255 & ~33);
+        check.due("both RULES off", x.cut(0, 0), NOT);
     }
 
     private static void led(Check check) {

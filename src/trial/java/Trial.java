@@ -43,7 +43,7 @@ import javax.tools.ToolProvider;
 /**
  * Tries the tests, not the class: the class is changed in one place at a time, and the tests of the
  * document's sentences (Edges) are run on what comes of it. Tells the changes that none of them
- * finds, and the sentences whose test found none.
+ * finds and, if the whole class was tried, the sentences whose test found none.
  */
 public final class Trial {
     private static final String SOURCE = "src/main/java/GrownAsks.java";
@@ -91,8 +91,10 @@ public final class Trial {
         for (Change c : changes) pool.execute(() -> tryOut(c));
         pool.shutdown();
         pool.awaitTermination(1, TimeUnit.DAYS);
+        // of some lines alone, most sentences have nothing to say
+        boolean whole = first <= 1 && last == Integer.MAX_VALUE;
         for (Map.Entry<String, Integer> e : foundBy.entrySet()) {
-            if (e.getValue() == 0) told.println("finds none: " + e.getKey());
+            if (whole && e.getValue() == 0) told.println("finds none: " + e.getKey());
         }
         told.println(changes.size() + " changes: " + found + " found, " + endless + " found as endless, "
                 + notCompiled + " not compiled, " + (changes.size() - found - endless - notCompiled) + " not found");
