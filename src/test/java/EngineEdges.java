@@ -360,6 +360,7 @@ final class EngineEdges {
         check.due("NOTHINGS alone", x.tell(0, 1, 2), 0);
         x.set(1, 128);
         check.due("in these ROWS", x.tell(0, 1, 0), 9);
+        ofOneRow(check, 1);
     }
 
     private static void totalOfNone(Check check) {
@@ -382,6 +383,22 @@ final class EngineEdges {
         check.due("none", x.tell(0, 2, 0), 0);
         for (int v = -9; v <= 9; v++) {
             for (int w = -9; w <= 9; w++) twoThings(check, v, w);
+        }
+        ofOneRow(check, 2);
+    }
+
+    /** TOTAL (1) or KINDS (2) of each COLUMN by each ROW alone, of one to eight. */
+    private static void ofOneRow(Check check, int what) {
+        for (int rows = 1; rows <= 8; rows++) {
+            GrownAsks x = new GrownAsks();
+            for (int i = 0; i < rows; i++) x.row(i + 1, -i - 1, 9 - i);
+            for (int i = 0; i < rows; i++) {
+                Check.type(x, 0, "=a" + (i + 1));
+                for (int column = 0; column < 3; column++) {
+                    check.due("by ROW " + i + " of " + rows + " in COLUMN " + column, x.tell(0, what, column),
+                            what == 1 ? x.at(i, column) : 1);
+                }
+            }
         }
     }
 
