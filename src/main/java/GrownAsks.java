@@ -16,6 +16,9 @@ public final class GrownAsks {
     /** Refusals of the calls of which -2 and -3 may be ordinary answers. */
     private static final int NO_CELL = -1000, NO_TEST = -1001;
 
+    /** The least long, as bits: the library's own name for it is not among what may be used. */
+    private static final long NO_ITEM = 1L << 63;
+
     private static final int NULL = 1, INDEX = 2, CAST = 3, STORE = 4, SIZE = 5;
     private static final int LOST = -1;
 
@@ -363,12 +366,12 @@ public final class GrownAsks {
     public long get(int s, int form, int i) {
         Sheet sheet = sheetOf(s);
         if (sheet == null || !isForm(form)) {
-            return Long.MIN_VALUE;
+            return NO_ITEM;
         }
         int against = itemFinding(sheet, form, i);
         if (against != 0) {
             found(against);
-            return Long.MIN_VALUE;
+            return NO_ITEM;
         }
         return sheet.item(i);
     }

@@ -1,11 +1,18 @@
+import com.sun.source.tree.ArrayAccessTree;
+import com.sun.source.tree.AssignmentTree;
+import com.sun.source.tree.BinaryTree;
 import com.sun.source.tree.ClassTree;
 import com.sun.source.tree.CompilationUnitTree;
+import com.sun.source.tree.CompoundAssignmentTree;
+import com.sun.source.tree.ExpressionTree;
+import com.sun.source.tree.ForLoopTree;
 import com.sun.source.tree.MemberSelectTree;
 import com.sun.source.tree.MethodInvocationTree;
 import com.sun.source.tree.MethodTree;
 import com.sun.source.tree.NewArrayTree;
 import com.sun.source.tree.NewClassTree;
 import com.sun.source.tree.Tree;
+import com.sun.source.tree.UnaryTree;
 import com.sun.source.tree.VariableTree;
 import com.sun.source.util.JavacTask;
 import com.sun.source.util.TreePath;
@@ -33,6 +40,15 @@ public final class LanguageTest {
     private static final Set<Tree.Kind> REFUSED = Set.of(Tree.Kind.THROW, Tree.Kind.TRY,
             Tree.Kind.CATCH, Tree.Kind.SYNCHRONIZED, Tree.Kind.ASSERT, Tree.Kind.LAMBDA_EXPRESSION,
             Tree.Kind.MEMBER_REFERENCE, Tree.Kind.IMPORT, Tree.Kind.PACKAGE);
+
+    /** Stricter than rule 9: with loops that count alone, each end can be seen. */
+    private static final Set<Tree.Kind> NO_COUNTER = Set.of(Tree.Kind.WHILE_LOOP, Tree.Kind.DO_WHILE_LOOP);
+    private static final Set<Tree.Kind> BOUNDS = Set.of(Tree.Kind.LESS_THAN, Tree.Kind.LESS_THAN_EQUAL,
+            Tree.Kind.GREATER_THAN, Tree.Kind.GREATER_THAN_EQUAL);
+
+    /** Stricter than rule 3: what this class has need of. */
+    private static final Set<String> TYPES = Set.of("int", "long", "boolean", "int[]", "long[]");
+    private static final Set<String> FIXED_TYPES = Set.of("int", "long", "int[]");
     private static final Set<String> LIBRARY = Set.of("Math.max", "Math.min", "Integer.bitCount",
             "Integer.numberOfTrailingZeros", "Integer.highestOneBit", "Object.<init>");
     private static final Set<String> FACE = Set.of("row", "read", "at", "put", "empty", "type", "wipe",
@@ -103,6 +119,9 @@ public final class LanguageTest {
             if (tree != null && REFUSED.contains(tree.getKind())) {
                 check.isTrue("rules 2, 4, 6: " + where(tree) + " has " + tree.getKind(), false);
             }
+            if (tree != null && NO_COUNTER.contains(tree.getKind())) {
+                check.isTrue("rule 9: " + where(tree) + " has no counter", false);
+            }
             return super.scan(tree, none);
         }
 
@@ -126,13 +145,66 @@ public final class LanguageTest {
         private boolean isField(VariableTree field, boolean outer) {
             Set<Modifier> marks = field.getModifiers().getFlags();
             boolean fixed = marks.contains(Modifier.STATIC);
-            check.isTrue("rule 5: " + field.getName(), !fixed || marks.contains(Modifier.FINAL));
+            check.isTrue("rule 5: " + field.getName(), !fixed || marks.contains(Modifier.FINAL)
+                    && FIXED_TYPES.contains(field.getType().toString()) && field.getInitializer() != null);
             if (outer) {
                 boolean face = CONSTANTS.contains(field.getName().toString());
                 check.isTrue("rule 1: " + field.getName(),
                         marks.contains(face ? Modifier.PUBLIC : Modifier.PRIVATE));
             }
             return !fixed;
+        }
+
+        @Override
+        public Void visitVariable(VariableTree tree, Void none) {
+            String type = trees.getTypeMirror(new TreePath(getCurrentPath(), tree.getType())).toString();
+            boolean own = type.startsWith("GrownAsks.") && !type.contains("[][]");
+            check.isTrue("rule 3: " + where(tree) + " has a " + type, own || TYPES.contains(type));
+            return super.visitVariable(tree, none);
+        }
+
+        @Override
+        public Void visitForLoop(ForLoopTree tree, Void none) {
+            boolean counts = tree.getInitializer().size() == 1 && tree.getUpdate().size() == 1;
+            check.isTrue("rule 9: " + where(tree) + " counts against a bound",
+                    counts && tree.getCondition() != null && isBounded(tree.getCondition(),
+                            ((VariableTree) tree.getInitializer().get(0)).getName().toString()));
+            return super.visitForLoop(tree, none);
+        }
+
+        private boolean isBounded(ExpressionTree condition, String counter) {
+            if (condition.getKind() == Tree.Kind.CONDITIONAL_AND) {
+                BinaryTree both = (BinaryTree) condition;
+                return isBounded(both.getLeftOperand(), counter) || isBounded(both.getRightOperand(), counter);
+            }
+            return BOUNDS.contains(condition.getKind())
+                    && ((BinaryTree) condition).getLeftOperand().toString().matches("\\Q" + counter + "\\E\\b.*");
+        }
+
+        @Override
+        public Void visitAssignment(AssignmentTree tree, Void none) {
+            noteChange(tree.getVariable());
+            return super.visitAssignment(tree, none);
+        }
+
+        @Override
+        public Void visitCompoundAssignment(CompoundAssignmentTree tree, Void none) {
+            noteChange(tree.getVariable());
+            return super.visitCompoundAssignment(tree, none);
+        }
+
+        @Override
+        public Void visitUnary(UnaryTree tree, Void none) {
+            if (tree.getKind().name().endsWith("CREMENT")) noteChange(tree.getExpression());
+            return super.visitUnary(tree, none);
+        }
+
+        private void noteChange(ExpressionTree changed) {
+            if (!(changed instanceof ArrayAccessTree)) return;
+            TreePath row = new TreePath(new TreePath(getCurrentPath(), changed),
+                    ((ArrayAccessTree) changed).getExpression());
+            check.isTrue("rule 5: " + where(changed) + " changes a constant",
+                    !trees.getElement(row).getModifiers().contains(Modifier.STATIC));
         }
 
         @Override
@@ -180,7 +252,18 @@ public final class LanguageTest {
             String text = tree.toString();
             check.isTrue("rule 4: " + where(tree) + " uses " + text,
                     !text.startsWith("java") && !text.startsWith("System"));
+            noteField(trees.getElement(getCurrentPath()), tree);
             return super.visitMemberSelect(tree, none);
+        }
+
+        /** Rule 4 lists functions of the library and none of its fields, constants neither. */
+        private void noteField(Element named, Tree tree) {
+            if (named == null || !named.getKind().isField() || named.getEnclosingElement() == null) return;
+            Element owner = named.getEnclosingElement();
+            String name = owner.getSimpleName() + "." + named;
+            // an array's length is the language's own, though the compiler tells it as a field
+            check.isTrue("rule 4: " + where(tree) + " uses the library's " + name,
+                    owner.toString().startsWith("GrownAsks") || name.equals("Array.length"));
         }
 
         private void noteCall(Element called, Tree tree) {
